@@ -34,13 +34,13 @@ public final class MillInspectors {
     public MillInspectors() {
         mills = new Mills();
         hands = new Hands();
-        reader = new Reader();
         book = new Book(mills);
         table = new Table();
         court = new Court();
         roads = new Roads();
         inForce = new Act(hands, mills);
         spare = new Act(hands, mills);
+        reader = new Reader(spare);
     }
 
     // ---- mills, hands, papers
@@ -814,6 +814,10 @@ public final class MillInspectors {
         /** Signs whose right side is not read yet, by how tightly they bind: OPEN, EITHER, BOTH, TURN. */
         private final int[] waiting = new int[64];
         private int waits;
+
+        Reader(Act into) {
+            this.into = into;
+        }
 
         int append(long v, int n) {
             if (length + n > MOST) {

@@ -62,6 +62,8 @@ public final class ActsTest {
         Due.accepts(made(), "rule 9 on 0-0:bar;rule 8 on 0-0:bar;strike 8 on 1;strike 9 on 2;", 2);
         Due.fault(made(), "^ruler");
         Due.fault(made(), "^rul");
+        Due.fault(made(), "^mule 1 on 0-0:bar;");
+        Due.fault(made(), "rule 1 ^in 0-0:bar;");
         Due.fault(made(), "^bar;");
         Due.fault(made(), "^;");
         Due.fault(made(), "^7");
@@ -87,6 +89,10 @@ public final class ActsTest {
         Due.fault(made(), "rule 1 on 0-0:bar^.");
         Due.fault(made(), "strike^");
         Due.fault(made(), "strike ^1 on 0;");
+        Due.fault(made(), "strike ^rule 1 on 0-0:bar;");
+        Due.fault(made(), "rule 2 on 0-0:bar;strike 2 ^rule 3 on 0-0:bar;");
+        Due.fault(made(), "rule 2 on 0-0:bar;strike 2 on ^rule 3 on 0-0:bar;");
+        Due.fault(made(), "rule 2 on 0-0:bar;strike 2 on 0 ^rule 3 on 0-0:bar;");
         Due.fault(made(), "strike ^1 on 0;rule 1 on 0-0:bar;");
         Due.fault(made(), "rule 2 on 0-0:bar;strike ^1 on 0;");
         Due.fault(made(), "rule 2 on 0-0:bar;strike ^bar");
@@ -124,7 +130,13 @@ public final class ActsTest {
         Due.fault(made(), "rule 1 on 0-0:from 9 to ^8;");
         Due.fault(made(), "rule 1 on 0-0:from ^1440 to 1441;");
         Due.fault(made(), "rule 1 on 0-0:from 9 to ^1440;");
+        Due.fault(made(), "rule 1 on 0-0:from 1439 to ^1439;");
         Due.fault(made(), "rule 1 on 0-0:from 9 ^9;");
+        Due.fault(made(), "rule 1 on 0-0:from ^,bar;");
+        Due.fault(made(), "rule 1 on 0-0:from 9^,bar;");
+        Due.fault(made(), "rule 1 on 0-0:from 9 to ^,bar;");
+        Due.fault(made(), "rule 1 on 0-0:hours ^,bar;");
+        Due.fault(made(), "rule 1 on 0-0:^barz;");
         Due.fault(made(), "rule 1 on 0-0:from ^to 9;");
         Due.fault(made(), "rule 1 on 0-0:bar,^bar;");
         Due.fault(made(), "rule 1 on 0-0:from 1 to 2,^from 1 to 2;");
@@ -228,6 +240,9 @@ public final class ActsTest {
         Due.is("no text is left", x.count(7), 0);
         Due.is("the empty text is an ACT", x.act(), 0);
         Due.is("without rules", x.count(2), 0);
+        Due.fault(x, "rule 1 on 0-0:if mill=0&!(!^");
+        Due.accepts(x, "rule 1 on 0-0:if mill=0 then bar;", 1);
+        Due.is("signs of a faulty text are forgotten", x.binds(0, 0, 0, 0), 2);
     }
 
     private static void bindings() {

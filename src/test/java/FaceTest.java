@@ -92,8 +92,18 @@ public final class FaceTest {
             Due.holds("twenty fields at most: " + c, own <= 20);
             for (Method m : c.getDeclaredMethods()) {
                 Due.holds("seven parameters at most: " + m, m.getParameterCount() <= 7);
+                Due.holds("no name of the face inside: " + m, c == MillInspectors.class || !isOfFace(m.getName()));
             }
         }
+    }
+
+    private static boolean isOfFace(String name) {
+        for (String method : FACE) {
+            if (method.contains(" " + name + "(")) {
+                return true;
+            }
+        }
+        return false;
     }
 
     private static void source() throws IOException {
