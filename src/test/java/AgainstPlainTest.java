@@ -5,7 +5,8 @@ import java.util.Random;
  * The seeds are fixed, so that every run of the test makes the same calls.
  */
 public final class AgainstPlainTest {
-    private static final int RUNS = 700, CALLS = 512;
+    /** A run goes beyond CALLS by the bytes of a text at most, and stays within the 512 calls of an object. */
+    private static final int RUNS = 900, CALLS = 385;
     private static final int[] WILD = {Integer.MIN_VALUE, Integer.MAX_VALUE, -1, -9, -10, 0, 1, 7, 25, 360, 1024, 100000};
     private static final String[] PARTS = {"rule ", "strike ", "on ", "if ", "then ", "hours ", "from ", "to ", "school ",
         "rest ", "paper ", "bar ", "age", "kind", "trade", "mill", ":", ";", "(", ")", "&", "|", "!", "<", ">", "=", ",",
@@ -83,6 +84,7 @@ public final class AgainstPlainTest {
             Due.is("seed " + seed + ", count " + what, x.count(what), y.count(what));
         }
         Due.is("seed " + seed + ", trace", x.trace(), y.trace());
+        Due.holds("seed " + seed + ": 512 calls at most, with the last nine", made + 9 <= 512);
     }
 
     private void hand() {

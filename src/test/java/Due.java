@@ -23,13 +23,18 @@ final class Due {
         int answer = x.count(7);
         for (int at = 0; at < text.length(); at += 8) {
             int n = Math.min(8, text.length() - at);
-            long v = 0;
-            for (int k = 0; k < n; k++) {
-                v = v << 8 | text.charAt(at + k);
-            }
-            answer = x.type(v, n);
+            answer = x.type(bytes(text, at, n), n);
         }
         return answer;
+    }
+
+    /** n bytes of a text as type() takes them, the first one highest. */
+    static long bytes(String text, int at, int n) {
+        long v = 0;
+        for (int k = 0; k < n; k++) {
+            v = v << 8 | text.charAt(at + k);
+        }
+        return v;
     }
 
     /** Types a text and makes it the ACT; a faulty one is cleared away again. */
