@@ -19,6 +19,7 @@ public final class BooksEdgesTest {
         linesOfOneHandAndDay();
         breachBounds();
         noBreachWithoutALine();
+        anothersLinesAreForgotten();
         hours();
         hoursByTheClock();
         spans();
@@ -91,6 +92,9 @@ public final class BooksEdgesTest {
         }
         Due.is("all sixty of one hand on one day, work", y.work(1, 359, 0), 60 * 1440 - 59 * 30);
         Due.is("all sixty of one hand on one day, clashes", y.clash(1, 359), 1770);
+        for (int of = 0; of < 6; of++) {
+            Due.is("all sixty of one hand on one day, breach " + of, y.breach(1, 359, of), of == HOURS ? 2 : 0);
+        }
     }
 
     /** Terms 4: "its clock at a MINUTE was wrong by e (-90 .. 90 ..)". */
@@ -311,6 +315,24 @@ public final class BooksEdgesTest {
             Due.is("none without any line, of " + of, x.breach(0, 2, of), 0);
             Due.is("each with one, of " + of, x.breach(1, 0, of), 2);
         }
+    }
+
+    /** Whatever was asked of another hand ahead of it, a hand's answers are its own. */
+    private static void anothersLinesAreForgotten() {
+        MillInspectors x = made("rule 1 on 0-0:hours 100,from 300 to 1200,rest 50,school 10;");
+        x.line(1, 0, 0, 0, 1440);
+        x.line(1, 0, 0, 0, 1440);
+        x.line(0, 0, 0, 400, 450);
+        x.line(1, 0, 1, 0, 1440);
+        x.line(0, 0, NONE, 500, 510);
+        for (int of = 0; of < 4; of++) {
+            Due.is("another's breach of " + of, x.breach(1, 0, of), 2);
+            Due.is("its own breach of " + of, x.breach(0, 0, of), 0);
+        }
+        Due.is("another's work", x.work(1, 0, 0), 4320);
+        Due.is("its own work", x.work(0, 0, 0), 50);
+        Due.is("another's clashes", x.clash(1, 0), 3);
+        Due.is("its own clashes", x.clash(0, 0), 0);
     }
 
     private static void breach(String act, int of, int due, int... lines) {
@@ -600,5 +622,10 @@ public final class BooksEdgesTest {
         x.line(0, 0, 0, 0, 9);
         x.line(0, 0, 0, 0, 9);
         Due.is("places among these lines alone", x.doubted(0, 0, 1), 2);
+        Due.is("another hand's", x.doubted(1, 0, 1), 1);
+        Due.is("another day's", x.doubted(0, 1, 1), 0);
+        Due.is("the first one's again", x.doubted(0, 0, 1), 2);
+        x.check(0, 700, 0);
+        Due.is("a clock that is wrong, and no clash is left", x.doubted(0, 0, 1), 0);
     }
 }

@@ -155,9 +155,11 @@ public final class RulesEdgesTest {
         for (int i = 0; i < 5; i++) {
             Due.is("just ten years, rule " + i, x.binds(i, 1, 0, 0), due[i]);
         }
-        binds("age=9999", 1, 0, 0, 0);
-        binds("age<9999", 1, 0, 0, 2);
-        binds("age>9999", 1, 0, 0, 0);
+        for (int hand = 0; hand < 2; hand++) {
+            binds("age=9999", hand, 0, 0, 0);
+            binds("age<9999", hand, 0, 0, 2);
+            binds("age>9999", hand, 0, 0, 0);
+        }
     }
 
     private static void ageTurnsOnADay() {
@@ -173,14 +175,17 @@ public final class RulesEdgesTest {
         binds("kind=0", 1, 0, 0, 0);
         binds("kind=6", 0, 0, 0, 0);
         binds("kind=9999", 0, 0, 0, 0);
+        binds("kind=9999", 1, 1, 0, 0);
         binds("mill=0", 0, 0, 0, 2);
         binds("mill=1", 0, 1, 0, 2);
         binds("mill=2", 0, 1, 0, 0);
         binds("mill=9999", 0, 1, 0, 0);
+        binds("mill=9999", 1, 0, 0, 0);
         binds("trade=1", 0, 0, 0, 2);
         binds("trade=2", 0, 1, 0, 2);
         binds("trade=4", 0, 1, 0, 0);
         binds("trade=9999", 0, 1, 0, 0);
+        binds("trade=9999", 1, 0, 0, 0);
     }
 
     /** Terms 3: "\"paper\": it has one." */

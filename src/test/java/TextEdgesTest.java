@@ -10,6 +10,9 @@ public final class TextEdgesTest {
         anyByteCanBeTyped();
         clearing();
         actEmptiesTheText();
+        bytesBehindTheEnd();
+        actsOneBehindTheOther();
+        faultsOneBehindTheOther();
         faultChangesNothing();
         everyByteAlone();
         everyByteBehindADuty();
@@ -139,6 +142,74 @@ public final class TextEdgesTest {
         Due.is("the empty text is an act without rules", x.act(), 0);
         Due.is("no rule is left", x.rule(0, 0), BAD);
         Due.is("nor a duty", x.duty(0, 0, 0, 6, 0), 0);
+    }
+
+    /** What was typed and cleared behind the end of the text is not read with it. */
+    private static void bytesBehindTheEnd() {
+        MillInspectors x = fresh();
+        Due.accepts(x, RULE + "hours 1440,bar;", 1);
+        Due.fault(x, RULE + "hours 14^");
+        Due.accepts(x, RULE + "hours 1440,bar;", 1);
+        Due.fault(x, RULE + "^ho");
+        Due.accepts(x, RULE + "hours 1440,bar;", 1);
+        Due.fault(x, RULE + "hours 1440^");
+        String long900 = RULE + times(" ", 890 - RULE.length());
+        Due.fault(fresh(), long900 + "hours 1440^");
+        Due.fault(fresh(), long900 + "hours ^1441");
+        Due.fault(fresh(), long900 + "hours 144^A");
+        Due.fault(fresh(), long900 + "paper,^bars");
+        Due.fault(fresh(), long900 + "paper, bar^");
+    }
+
+    /** Each act is read anew: nothing of the one ahead of it, nor of the one ahead of that, is left in it. */
+    private static void actsOneBehindTheOther() {
+        MillInspectors x = fresh();
+        x.mill(0, 1, 1);
+        x.hand(0, 0);
+        String[] texts = {"rule 1 on 0-9:if paper&mill=0 then hours 1,school 2,rest 3,bar;strike 1 on 5;", "rule 2 on 0-0:bar;",
+            "rule 3 on 0-0:from 1 to 2,paper;", "rule 4 on 0-0:if !(paper|mill=0) then hours 9;", ""};
+        int[][] due = {{1, 5, 4, 0, 900}, {2, NONE, 1, 2, 900}, {3, NONE, 2, 2, 900}, {4, NONE, 1, 0, 900}};
+        for (int turn = 0; turn < 15; turn++) {
+            int k = turn * 2 % 5;
+            Due.accepts(x, texts[k], k < 4 ? 1 : 0);
+            if (k < 4) {
+                Due.is("its number", x.rule(0, 0), due[k][0]);
+                Due.is("its strike", x.rule(0, 3), due[k][1]);
+                Due.is("its duties", x.rule(0, 4), due[k][2]);
+                Due.is("how it binds", x.binds(0, 0, 0, 0), due[k][3]);
+                Due.is("its hours", x.duty(0, 0, 0, 0, 1), due[k][4]);
+            }
+            Due.is("no second rule", x.rule(1, 0), BAD);
+        }
+    }
+
+    /** A faulty text may be read again and again; the next good one is read as if none had been. */
+    private static void faultsOneBehindTheOther() {
+        MillInspectors x = fresh();
+        x.mill(0, 1, 1);
+        x.hand(0, 0);
+        String tests = times("!mill=1&", 29) + "!mill=1";
+        String text = "rule 1 on 0-0:if " + tests + " then bar;rule 2 on 0-0:if " + tests + " then bar;rule 3 on 0-0:if " + tests
+            + " then bar;";
+        Due.type(x, text);
+        Due.type(x, "strike");
+        for (int turn = 0; turn < 9; turn++) {
+            Due.is("the fault, turn " + turn, x.act(), -10 - text.length() - 6);
+        }
+        Due.type(x, " 3 on 0;");
+        Due.is("then it is good", x.act(), 3);
+        Due.is("the first binds", x.binds(0, 0, 0, 0), 2);
+        Due.is("the second binds", x.binds(1, 0, 0, 0), 2);
+        Due.is("the third is struck", x.binds(2, 0, 0, 0), 0);
+        String[] broken = {"!(!(mill=1|paper&!^", "mill=1&^", "mill=1|(^", "((((((((((^(", "!^&", "paper|paper|paper^=1"};
+        for (String cond : broken) {
+            Due.fault(x, RULE + "if " + cond);
+            Due.accepts(x, RULE + "if mill=0 then bar;", 1);
+            Due.is("behind " + cond, x.binds(0, 0, 0, 0), 2);
+            Due.fault(x, RULE + "if " + cond);
+            Due.accepts(x, RULE + "if mill=1 then bar;", 1);
+            Due.is("behind " + cond + " too", x.binds(0, 0, 0, 0), 0);
+        }
     }
 
     /** Promise 10: "-10 less FAULT: nothing changes." */
